@@ -416,7 +416,9 @@ public final class SealedChain {
                 if (voteBallots[cell] != 0) {
                     votes++;
                 }
-                castVote(cell, 0, NOTHING);
+                promisedBallots[cell] = 0;
+                voteBallots[cell] = 0;
+                voteCommands[cell] = NOTHING;
             }
             return votes;
         }
